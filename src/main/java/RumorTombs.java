@@ -321,7 +321,8 @@ public final class RumorTombs {
         private final int[] asleepSince = new int[MOST_VILLAGERS];
         private final int[] ghostsOf = new int[MOST_VILLAGERS];
 
-        // One for each topic of each villager's book, found by place.
+        // One for each topic of each villager's book, found by place. Where the stamp is NO_ENTRY, the
+        // others mean nothing, nor do those that an entry of this kind does not have.
         private final int[] stamps = new int[MOST_VILLAGERS * TOPICS];
         private final int[] kinds = new int[MOST_VILLAGERS * TOPICS];
         private final int[] values = new int[MOST_VILLAGERS * TOPICS];
@@ -433,7 +434,7 @@ public final class RumorTombs {
             }
             states[villager] = GONE;
             for (int topic = 0; topic < TOPICS; topic++) {
-                erase(place(villager, topic));
+                stamps[place(villager, topic)] = NO_ENTRY;
             }
             return howMany(AWAKE) + howMany(ASLEEP);
         }
@@ -577,20 +578,11 @@ public final class RumorTombs {
             return clocks[villager];
         }
 
-        /** Puts a new entry, of which only kind, version and author are set, in the place of the old one. */
+        /** Puts a new entry in the place of the old one; what its kind has of its own is still to be set. */
         private void write(int villager, int place, int kind) {
-            erase(place);
             clocks[villager]++;
             stamps[place] = clocks[villager] * AUTHORS + villager;
             kinds[place] = kind;
-        }
-
-        private void erase(int place) {
-            stamps[place] = NO_ENTRY;
-            kinds[place] = PLAIN;
-            values[place] = 0;
-            made[place] = 0;
-            seen[place] = 0;
         }
 
         // -- meetings
@@ -737,7 +729,7 @@ public final class RumorTombs {
                     int place = place(v, topic);
                     if (isTomb(place) && isOver(place, present)) {
                         newestDropped[place] = Math.max(newestDropped[place], stamps[place]);
-                        erase(place);
+                        stamps[place] = NO_ENTRY;
                         dropped++;
                     }
                 }
