@@ -847,11 +847,6 @@ public final class PromiseTest {
         x.wake(1);
         x.undo();
         Due.is("20: the sleep", x.villagerOf(1, 5), 1);
-        x.wake(1);
-        x.sleep(1);
-        x.undo();
-        x.undo();
-        Due.is("20: since when", x.villagerOf(1, 5), 1);
         x.undo();
         x.undo();
         Due.is("20: awake", x.villagerOf(1, 0), 0);
@@ -869,6 +864,15 @@ public final class PromiseTest {
         x.meet(2, 1);
         x.undo();
         Due.is("20: seen", x.entryOf(2, 0, 6), 5);
+
+        x = village(1);
+        x.sleep(0);
+        x.tick(5);
+        x.wake(0);
+        x.sleep(0);
+        x.undo();
+        x.undo();
+        Due.is("20: since when", x.villagerOf(0, 5), 5);
     }
 
     /** All answers that tell what is so, but the number of states. */
