@@ -1,13 +1,13 @@
 /** Each promise of the document by itself: ordinary inputs, the edges that it names, wrong inputs. */
 public final class PromiseTest {
-    private static final int INVALID = RumorTombs.INVALID_ARGUMENT;
-    private static final int IMPOSSIBLE = RumorTombs.NOT_POSSIBLE;
-    private static final int LIMIT = RumorTombs.LIMIT_REACHED;
-    private static final int NONE = RumorTombs.NOT_FOUND;
+    private static final int INVALID = Villages.INVALID;
+    private static final int IMPOSSIBLE = Villages.IMPOSSIBLE;
+    private static final int LIMIT = Villages.LIMIT;
+    private static final int NONE = Villages.NONE;
 
-    private static final int PLAIN = 0;
-    private static final int WHISPERED = 1;
-    private static final int SECRET = 2;
+    private static final int PLAIN = Villages.PLAIN;
+    private static final int WHISPERED = Villages.WHISPERED;
+    private static final int SECRET = Villages.SECRET;
 
     private static final int[] FAR = {Integer.MIN_VALUE, -1, Integer.MAX_VALUE};
 
@@ -40,8 +40,6 @@ public final class PromiseTest {
         count();
         undo();
         undoRestoresEverything();
-        undoOfEachChange();
-        undoBehindManyChanges();
         sevenVillagers();
         type();
         clearText();
@@ -53,30 +51,15 @@ public final class PromiseTest {
         Due.end();
     }
 
-    private static RumorTombs village(int villagers) {
-        RumorTombs x = new RumorTombs();
-        for (int i = 0; i < villagers; i++) {
-            x.villager();
-        }
-        return x;
-    }
-
-    private static void write(RumorTombs x, String text) {
-        x.clearText();
-        for (int i = 0; i < text.length(); i++) {
-            x.type(text.charAt(i));
-        }
-    }
-
     private static void faultIs(RumorTombs x, String text, int position, int reason) {
-        write(x, text);
+        Villages.write(x, text);
         Due.is("fault(0) of " + text, x.fault(0), position);
         Due.is("fault(1) of " + text, x.fault(1), reason);
         Due.is("play() of " + text, x.play(), IMPOSSIBLE);
     }
 
     private static void noFault(RumorTombs x, String text) {
-        write(x, text);
+        Villages.write(x, text);
         Due.is("fault(0) of " + text, x.fault(0), NONE);
         Due.is("fault(1) of " + text, x.fault(1), NONE);
     }
@@ -108,7 +91,7 @@ public final class PromiseTest {
     }
 
     private static void sleep() {
-        RumorTombs x = village(3);
+        RumorTombs x = Villages.of(3);
         Due.is("3: sleep(1)", x.sleep(1), 2);
         Due.is("3: state", x.villagerOf(1, 0), 1);
         Due.is("3: sleep(1) again", x.sleep(1), IMPOSSIBLE);
@@ -123,7 +106,7 @@ public final class PromiseTest {
     }
 
     private static void wake() {
-        RumorTombs x = village(3);
+        RumorTombs x = Villages.of(3);
         x.tick(5);
         x.sleep(0);
         Due.is("4: at once", x.wake(0), 0);
@@ -145,7 +128,7 @@ public final class PromiseTest {
     }
 
     private static void leave() {
-        RumorTombs x = village(3);
+        RumorTombs x = Villages.of(3);
         x.tell(1, 4, 40, PLAIN);
         x.tell(1, 5, 50, PLAIN);
         x.bury(1, 5);
@@ -181,7 +164,7 @@ public final class PromiseTest {
     }
 
     private static void villagerOf() {
-        RumorTombs x = village(2);
+        RumorTombs x = Villages.of(2);
         x.tell(0, 0, 5, PLAIN);
         x.tell(0, 11, 5, SECRET);
         x.tell(0, 3, 5, PLAIN);
@@ -209,7 +192,7 @@ public final class PromiseTest {
     }
 
     private static void tell() {
-        RumorTombs x = village(2);
+        RumorTombs x = Villages.of(2);
         Due.is("8: first", x.tell(0, 11, 99, SECRET), 1);
         Due.is("8: second", x.tell(0, 0, 0, PLAIN), 2);
         Due.is("8: in its place", x.tell(0, 11, 98, WHISPERED), 3);
@@ -240,7 +223,7 @@ public final class PromiseTest {
     }
 
     private static void bury() {
-        RumorTombs x = village(2);
+        RumorTombs x = Villages.of(2);
         x.tick(3);
         x.tell(0, 2, 5, PLAIN);
         x.tick(4);
@@ -269,7 +252,7 @@ public final class PromiseTest {
     }
 
     private static void meetPassesTheNewer() {
-        RumorTombs x = village(3);
+        RumorTombs x = Villages.of(3);
         x.tell(0, 0, 10, PLAIN);
         x.tell(1, 0, 11, PLAIN);
         x.tell(0, 1, 20, PLAIN);
@@ -299,7 +282,7 @@ public final class PromiseTest {
     }
 
     private static void meetKeepsWhispers() {
-        RumorTombs x = village(4);
+        RumorTombs x = Villages.of(4);
         x.tell(1, 0, 5, WHISPERED);
         x.tell(1, 1, 6, SECRET);
         Due.is("10: whispered to a lower one", x.meet(0, 1), 1);
@@ -321,7 +304,7 @@ public final class PromiseTest {
     }
 
     private static void meetSharesSight() {
-        RumorTombs x = village(5);
+        RumorTombs x = Villages.of(5);
         x.tell(0, 0, 5, PLAIN);
         x.bury(0, 0);
         Due.is("10: a tomb is passed", x.meet(0, 1), 1);
@@ -345,7 +328,7 @@ public final class PromiseTest {
         x.meet(0, 1);
         Due.is("10: an older tomb gives no seers", x.entryOf(1, 0, 6), 19);
 
-        x = village(5);
+        x = Villages.of(5);
         x.tell(0, 0, 5, PLAIN);
         x.tick(7);
         x.bury(0, 0);
@@ -361,7 +344,7 @@ public final class PromiseTest {
         Due.is("10: others of whom one told, in 4", x.entryOf(4, 0, 6), 31);
         Due.is("10: not in 3", x.entryOf(3, 0, 6), 11);
 
-        x = village(3);
+        x = Villages.of(3);
         x.tell(2, 0, 1, PLAIN);
         x.tell(2, 0, 1, PLAIN);
         x.tell(2, 0, 1, WHISPERED);
@@ -374,7 +357,7 @@ public final class PromiseTest {
     }
 
     private static void meetErrors() {
-        RumorTombs x = village(3);
+        RumorTombs x = Villages.of(3);
         x.tell(0, 0, 1, PLAIN);
         x.sleep(1);
         Due.is("10: one asleep", x.meet(0, 1), IMPOSSIBLE);
@@ -395,7 +378,7 @@ public final class PromiseTest {
     }
 
     private static void entryOf() {
-        RumorTombs x = village(2);
+        RumorTombs x = Villages.of(2);
         x.tell(1, 11, 42, SECRET);
         x.tick(2);
         x.tell(1, 6, 7, PLAIN);
@@ -423,7 +406,7 @@ public final class PromiseTest {
     }
 
     private static void tickDropsSeenTombs() {
-        RumorTombs x = village(3);
+        RumorTombs x = Villages.of(3);
         x.tell(0, 0, 5, PLAIN);
         x.bury(0, 0);
         x.meet(0, 1);
@@ -435,14 +418,14 @@ public final class PromiseTest {
         Due.is("12: leaving drops nothing", x.count(6), 1);
         Due.is("12: those who are gone do not matter", x.tick(1), 1);
 
-        x = village(2);
+        x = Villages.of(2);
         x.tell(0, 0, 5, PLAIN);
         x.bury(0, 0);
         x.meet(0, 1);
         x.sleep(1);
         Due.is("12: one asleep drops, too", x.tick(1), 2);
 
-        x = village(2);
+        x = Villages.of(2);
         x.tell(0, 0, 5, PLAIN);
         x.bury(0, 0);
         x.sleep(1);
@@ -451,7 +434,7 @@ public final class PromiseTest {
         x.villager();
         Due.is("12: a new one must see it", x.tick(1), 0);
 
-        x = village(2);
+        x = Villages.of(2);
         x.tell(1, 0, 5, PLAIN);
         x.bury(1, 0);
         Due.is("12: 0 must see it", x.tick(1), 0);
@@ -460,7 +443,7 @@ public final class PromiseTest {
     }
 
     private static void tickDropsOldTombs() {
-        RumorTombs x = village(2);
+        RumorTombs x = Villages.of(2);
         x.tell(0, 0, 5, PLAIN);
         x.bury(0, 0);
         x.tick(3);
@@ -496,7 +479,7 @@ public final class PromiseTest {
     }
 
     private static void newest() {
-        RumorTombs x = village(3);
+        RumorTombs x = Villages.of(3);
         x.tell(0, 4, 1, PLAIN);
         Due.is("13: one", x.newest(4), 1);
         x.tell(2, 4, 2, PLAIN);
@@ -521,7 +504,7 @@ public final class PromiseTest {
     }
 
     private static void unlike() {
-        RumorTombs x = village(3);
+        RumorTombs x = Villages.of(3);
         x.tell(0, 0, 1, PLAIN);
         x.tell(1, 0, 1, PLAIN);
         x.tell(1, 11, 1, PLAIN);
@@ -547,7 +530,7 @@ public final class PromiseTest {
     }
 
     private static void dead() {
-        RumorTombs x = village(3);
+        RumorTombs x = Villages.of(3);
         x.tell(0, 0, 1, PLAIN);
         x.tell(0, 7, 1, PLAIN);
         x.meet(0, 1);
@@ -571,7 +554,7 @@ public final class PromiseTest {
             Due.is("15: dead(" + far + ")", x.dead(far), INVALID);
         }
 
-        x = village(2);
+        x = Villages.of(2);
         x.tell(1, 0, 1, PLAIN);
         x.tell(1, 0, 1, PLAIN);
         x.tell(1, 0, 1, PLAIN);
@@ -585,7 +568,7 @@ public final class PromiseTest {
 
     /** Villager 1 has a rumor of topic 0 that 0 has buried; 0 has dropped the tomb. */
     private static RumorTombs haunted() {
-        RumorTombs x = village(3);
+        RumorTombs x = Villages.of(3);
         x.tell(1, 0, 66, PLAIN);
         x.meet(1, 0);
         x.bury(0, 0);
@@ -626,7 +609,7 @@ public final class PromiseTest {
         x.meet(0, 1);
         Due.is("19: no ghost", x.count(8), 0);
 
-        x = village(3);
+        x = Villages.of(3);
         x.tell(1, 0, 1, PLAIN);
         x.meet(1, 0);
         x.bury(0, 0);
@@ -643,7 +626,7 @@ public final class PromiseTest {
     }
 
     private static void ghostsThatWould() {
-        RumorTombs x = village(3);
+        RumorTombs x = Villages.of(3);
         x.tell(1, 0, 66, PLAIN);
         x.tell(1, 1, 67, PLAIN);
         x.tell(1, 2, 68, SECRET);
@@ -676,7 +659,7 @@ public final class PromiseTest {
         Due.is("16: gone, first", x.ghosts(2, 0, 0), IMPOSSIBLE);
         Due.is("16: gone and ticks 61", x.ghosts(2, 0, 61), INVALID);
 
-        x = village(2);
+        x = Villages.of(2);
         x.tell(0, 0, 1, PLAIN);
         x.meet(0, 1);
         x.bury(0, 0);
@@ -704,7 +687,7 @@ public final class PromiseTest {
     }
 
     private static void bestMeeting() {
-        RumorTombs x = village(4);
+        RumorTombs x = Villages.of(4);
         Due.is("17: no entries, pair", x.bestMeeting(0), 1);
         Due.is("17: no entries, passed", x.bestMeeting(1), 0);
         x.tell(3, 0, 1, PLAIN);
@@ -732,7 +715,7 @@ public final class PromiseTest {
     }
 
     private static void rounds() {
-        RumorTombs x = village(7);
+        RumorTombs x = Villages.of(7);
         Due.is("18: alike at once", x.rounds(), 0);
         x.tell(0, 0, 1, PLAIN);
         Due.is("18: along the round", x.rounds(), 1);
@@ -753,13 +736,13 @@ public final class PromiseTest {
         x.leave(3);
         Due.is("18: nobody is awake", x.rounds(), 0);
 
-        x = village(3);
+        x = Villages.of(3);
         x.tell(1, 0, 1, SECRET);
         Due.is("18: a secret one never comes to 0", x.rounds(), NONE);
         x.sleep(0);
         Due.is("18: but to 2", x.rounds(), 1);
 
-        x = village(3);
+        x = Villages.of(3);
         x.tell(1, 0, 1, WHISPERED);
         Due.is("18: whispered among three", x.rounds(), 1);
         x.tell(2, 1, 1, WHISPERED);
@@ -770,13 +753,13 @@ public final class PromiseTest {
         x.meet(2, 0);
         Due.is("18: a tomb's seers do not matter", x.rounds(), 1);
 
-        x = village(7);
+        x = Villages.of(7);
         x.tell(6, 0, 1, PLAIN);
         Due.is("18: against the round, the last one to the first one", x.rounds(), 2);
     }
 
     private static void count() {
-        RumorTombs x = village(4);
+        RumorTombs x = Villages.of(4);
         x.tell(0, 0, 1, PLAIN);
         x.tell(0, 1, 1, PLAIN);
         x.meet(0, 1);
@@ -786,7 +769,7 @@ public final class PromiseTest {
         x.sleep(2);
         x.leave(3);
         x.watch(33);
-        write(x, "abc");
+        Villages.write(x, "abc");
         int[] due = {4, 2, 1, 3, 33, 4, 2, 1, 0, 1, 4, 3};
         for (int what = 0; what <= 11; what++) {
             Due.is("19: count(" + what + ")", x.count(what), due[what]);
@@ -865,7 +848,7 @@ public final class PromiseTest {
         x.undo();
         Due.is("20: seen", x.entryOf(2, 0, 6), 5);
 
-        x = village(1);
+        x = Villages.of(1);
         x.sleep(0);
         x.tick(5);
         x.wake(0);
@@ -875,87 +858,8 @@ public final class PromiseTest {
         Due.is("20: since when", x.villagerOf(0, 5), 5);
     }
 
-    /** All answers that tell what is so, but the number of states. */
-    private static String look(RumorTombs x) {
-        StringBuilder all = new StringBuilder();
-        for (int v = 0; v < 7; v++) {
-            for (int what = 0; what <= 5; what++) {
-                all.append(x.villagerOf(v, what)).append(' ');
-            }
-            for (int topic = 0; topic < 12; topic++) {
-                for (int what = 0; what <= 7; what++) {
-                    all.append(x.entryOf(v, topic, what)).append(' ');
-                }
-            }
-            for (int other = 0; other < 7; other++) {
-                all.append(x.ghosts(v, other, 0)).append(' ').append(x.ghosts(v, other, 60)).append(' ');
-            }
-        }
-        for (int what = 0; what <= 11; what++) {
-            all.append(what == 10 ? 0 : x.count(what)).append(' ');
-        }
-        return all.toString();
-    }
-
-    /** A village in which each of the ten changes is possible; change tells which one is made. */
-    private static int change(RumorTombs x, int change) {
-        switch (change) {
-            case 0: return x.villager();
-            case 1: return x.tell(0, 0, 77, WHISPERED);
-            case 2: return x.bury(1, 1);
-            case 3: return x.meet(0, 1);
-            case 4: return x.sleep(2);
-            case 5: return x.wake(3);
-            case 6: return x.leave(0);
-            case 7: return x.watch(20);
-            case 8: return x.tick(4);
-            default: return x.play();
-        }
-    }
-
-    private static void undoOfEachChange() {
-        for (int change = 0; change < 10; change++) {
-            RumorTombs x = village(4);
-            x.tell(1, 1, 10, PLAIN);
-            x.tell(1, 2, 20, SECRET);
-            x.meet(1, 3);
-            x.tick(8);
-            x.bury(3, 1);
-            x.meet(3, 0);
-            x.tick(7);
-            x.sleep(3);
-            x.tell(0, 3, 30, PLAIN);
-            x.tick(2);
-            x.tell(0, 0, 66, PLAIN);
-            x.bury(0, 3);
-            write(x, "t1,5,5;b1,5;n9;m0,1;w3;n1;s3;");
-            String before = look(x);
-            Due.is("20: change " + change + " is possible", change(x, change) >= 0 ? 1 : 0, 1);
-            Due.is("20: change " + change + " changes", look(x).equals(before) ? 1 : 0, 0);
-            Due.is("20: change " + change + " is undone", x.undo(), 3);
-            Due.is("20: all is as before change " + change, look(x).equals(before) ? 1 : 0, 1);
-        }
-    }
-
-    private static void undoBehindManyChanges() {
-        RumorTombs x = village(1);
-        for (int value = 0; value < 50; value++) {
-            x.tell(0, 0, value, PLAIN);
-            if (value % 3 == 0) {
-                x.undo();
-                x.tell(0, 0, value, PLAIN);
-            }
-        }
-        Due.is("20: an error overwrites no state", x.tell(0, 0, 100, PLAIN), INVALID);
-        for (int back = 1; back <= 4; back++) {
-            Due.is("20: states left", x.undo(), 4 - back);
-            Due.is("20: the value then", x.entryOf(0, 0, 3), 49 - back);
-        }
-        Due.is("20: no more", x.undo(), IMPOSSIBLE);
-    }
-
     private static void sevenVillagers() {
-        RumorTombs x = village(7);
+        RumorTombs x = Villages.of(7);
         for (int v = 0; v < 7; v++) {
             for (int topic = 0; topic < 12; topic++) {
                 x.tell(v, topic, topic, PLAIN);
@@ -1003,25 +907,31 @@ public final class PromiseTest {
     private static void clearText() {
         RumorTombs x = new RumorTombs();
         Due.is("22: empty", x.clearText(), 0);
-        write(x, "n60;n");
+        Villages.write(x, "n60;n");
         Due.is("22: five", x.clearText(), 5);
         Due.is("22: empty then", x.clearText(), 0);
         Due.is("22: from the start again", x.type('n'), 1);
         Due.is("22: no change", x.count(10), 0);
     }
 
+    /** Three villagers, of whom 0 has a rumor of topic 0. */
+    private static RumorTombs three() {
+        RumorTombs x = Villages.of(3);
+        x.tell(0, 0, 5, PLAIN);
+        return x;
+    }
+
     private static void faultForm() {
-        RumorTombs x = village(3);
-        x.tell(0, 0, 1, PLAIN);
         String[] bad = {";", "t", "t0", "t0,0,5", "t0,0;", "t0;", "t;", "t0,0,5,5;", "t0,0,500;", "t,0,5;", "t0,,5;",
             "t0,0,;", "T0,0,5;", " t0,0,5;", "t 0,0,5;", "t0,0,5 ;", "t0 ,0,5;", "tt0,0,5;", "t-1,0,5;", "t0.0.5;",
             "b0;", "b0,0", "b0,0,0;", "b000,0;", "b0,000;", "m0;", "m0,1,2;", "m,1;", "m0,;", "s;", "s0", "s0,1;",
             "s000;", "w;", "w0,0;", "w;0", "n;", "n1,1;", "n100;", "n001;", "nn1;", "n1,;", "x0;", "0;", "n/;", "n:;",
             "n", "~", " ", ",", "n1:"};
         for (String order : bad) {
-            faultIs(x, order, 0, 1);
-            faultIs(x, "n1;n2;" + order, 6, 1);
+            faultIs(three(), order, 0, 1);
+            faultIs(three(), "n1;n2;" + order, 6, 1);
         }
+        RumorTombs x = three();
         faultIs(x, "n1;;n1;", 3, 1);
         faultIs(x, "n1; n1;", 3, 1);
         faultIs(x, "n1;n1", 3, 1);
@@ -1031,13 +941,13 @@ public final class PromiseTest {
     }
 
     private static void faultNames() {
-        RumorTombs x = village(3);
         String[] bad = {"t3,0,5;", "t0,12,5;", "t99,99,99;", "t3,12,5;", "b3,0;", "b0,12;", "b99,99;", "m0,3;", "m3,0;",
             "m3,3;", "m99,99;", "s3;", "s99;", "w3;", "w07;"};
         for (String order : bad) {
-            faultIs(x, order, 0, 2);
-            faultIs(x, "t0,0,1;m0,1;" + order, 12, 2);
+            faultIs(three(), order, 0, 2);
+            faultIs(three(), "t0,0,1;m0,1;" + order, 12, 2);
         }
+        RumorTombs x = three();
         x.sleep(1);
         faultIs(x, "m1,3;", 0, 2);
         faultIs(x, "s1;s3;", 0, 3);
@@ -1053,13 +963,12 @@ public final class PromiseTest {
     }
 
     private static void faultOtherwise() {
-        RumorTombs x = village(3);
-        x.tell(0, 0, 5, PLAIN);
         String[] bad = {"b1,0;", "b0,1;", "m0,0;", "m2,02;", "w0;", "n0;", "n00;", "n61;", "n99;"};
         for (String order : bad) {
-            faultIs(x, order, 0, 3);
-            faultIs(x, "n1;" + order, 3, 3);
+            faultIs(three(), order, 0, 3);
+            faultIs(three(), "n1;" + order, 3, 3);
         }
+        RumorTombs x = three();
         noFault(x, "n60;n1;n01;n07;");
         noFault(x, "t00,00,00;t2,11,99;t1,01,1;");
         noFault(x, "b0,0;");
@@ -1083,12 +992,12 @@ public final class PromiseTest {
     }
 
     private static void play() {
-        RumorTombs x = village(3);
+        RumorTombs x = Villages.of(3);
         Due.is("24: no orders", x.play(), 0);
         Due.is("24: one change all the same", x.count(10), 4);
         Due.is("24: undone", x.undo(), 3);
         Due.is("24: three villagers still", x.count(0), 3);
-        write(x, "t0,11,99;m0,2;b2,11;s1;n60;w1;t1,3,07;");
+        Villages.write(x, "t0,11,99;m0,2;b2,11;s1;n60;w1;t1,3,07;");
         Due.is("24: seven", x.play(), 7);
         Due.is("24: the text stays", x.count(11), 38);
         Due.is("24: plain", x.entryOf(0, 11, 4), PLAIN);
@@ -1105,17 +1014,17 @@ public final class PromiseTest {
         Due.is("24: its time", x.count(3), 0);
         Due.is("24: again", x.play(), 7);
         Due.is("24: and again, a ghost", x.play(), 7);
-        write(x, "m0,2;n1;w0;");
+        Villages.write(x, "m0,2;n1;w0;");
         Due.is("24: a fault", x.play(), IMPOSSIBLE);
         Due.is("24: nothing was done", x.count(3), 120);
-        write(x, "s0;s1;s2;w0;w1;w2;s0;s1;s2;w0;w1;w2;s0;s1;s2;w0;w1;w2;s0;s1;");
+        Villages.write(x, "s0;s1;s2;w0;w1;w2;s0;s1;s2;w0;w1;w2;s0;s1;s2;w0;w1;w2;s0;s1;");
         Due.is("24: twenty", x.play(), 20);
         Due.is("24: who sleeps", x.count(2), 2);
     }
 
     private static void timeLimit() {
-        RumorTombs x = village(2);
-        write(x, "n60;n60;n60;n60;n60;n60;n60;n60;n60;n60;n60;n60;n60;n60;n60;");
+        RumorTombs x = Villages.of(2);
+        Villages.write(x, "n60;n60;n60;n60;n60;n60;n60;n60;n60;n60;n60;n60;n60;n60;n60;");
         for (int i = 0; i < 111; i++) {
             Due.is("12: 900 ticks", x.play(), 15);
         }
