@@ -14,6 +14,7 @@ public final class HistoryEdgesTest {
         undoIsNoChange();
         theTextIsNotRestored();
         whatNobodyHasAnyLonger();
+        theLastPlaceOfTheLastBook();
         manyChanges();
         Due.end();
     }
@@ -269,6 +270,48 @@ public final class HistoryEdgesTest {
         Due.is("asleep at once", x.villagerOf(0, 5), 0);
         x.undo();
         Due.is("awake", x.villagerOf(0, 0), 0);
+    }
+
+    private static void theLastPlaceOfTheLastBook() {
+        Due.sentence("each change records everything before it but the text");
+        for (int v = 0; v < 7; v += 6) {
+            for (int topic = 0; topic < 12; topic += 11) {
+                theLastPlace(v, topic, v == 0 ? 6 : 0);
+            }
+        }
+    }
+
+    private static void theLastPlace(int v, int topic, int other) {
+        RumorTombs x = Villages.of(7);
+        x.tick(3);
+        x.tell(v, topic, 33, Villages.SECRET);
+        x.bury(v, topic);
+        x.tick(4);
+        x.tell(v, topic, 44, Villages.WHISPERED);
+        x.bury(v, topic);
+        x.meet(v, other);
+        Due.is("seen by two", x.entryOf(v, topic, 6), 1 << v | 1 << other);
+        x.undo();
+        Due.is("seen by one", x.entryOf(v, topic, 6), 1 << v);
+        Due.is("not there", x.entryOf(other, topic, 0), Villages.NONE);
+        Due.is("made then", x.entryOf(v, topic, 5), 7);
+        x.undo();
+        Due.is("the later value", x.entryOf(v, topic, 3), 44);
+        Due.is("the later kind", x.entryOf(v, topic, 4), Villages.WHISPERED);
+        x.undo();
+        Due.is("the tomb before it", x.entryOf(v, topic, 1), 2);
+        Due.is("made before", x.entryOf(v, topic, 5), 3);
+        Due.is("the clock", x.villagerOf(v, 1), 2);
+        Due.is("the watch is not over", x.tick(5), 0);
+        Due.is("the watch is over", x.tick(1), 1);
+        x.undo();
+        Due.is("the tomb again", x.entryOf(v, topic, 5), 3);
+        Villages.write(x, "n1;");
+        x.play();
+        Due.is("dropped by an order", x.entryOf(v, topic, 0), Villages.NONE);
+        x.undo();
+        Due.is("and again, its time", x.entryOf(v, topic, 5), 3);
+        Due.is("and again, its seers", x.entryOf(v, topic, 6), 1 << v);
     }
 
     private static void manyChanges() {

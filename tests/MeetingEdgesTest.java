@@ -246,6 +246,10 @@ public final class MeetingEdgesTest {
                     x.meet(one, other);
                     Due.is("with " + one, x.entryOf(one, 11, 6), 1 << one | 1 << other);
                     Due.is("with " + other, x.entryOf(other, 11, 6), 1 << one | 1 << other);
+                    x.undo();
+                    x.meet(other, one);
+                    Due.is("with " + one + ", called by " + other, x.entryOf(one, 11, 6), 1 << one | 1 << other);
+                    Due.is("with " + other + ", calling", x.entryOf(other, 11, 6), 1 << one | 1 << other);
                 }
             }
         }
@@ -274,6 +278,13 @@ public final class MeetingEdgesTest {
         x.leave(0);
         x.meet(3, 4);
         Due.is("of one gone, too", x.entryOf(4, 0, 6), 31);
+        x.meet(1, 6);
+        Due.is("of those of whom its giver told", x.entryOf(6, 0, 6), 71);
+        x.meet(1, 4);
+        Due.is("of those of whom one told, with 1", x.entryOf(1, 0, 6), 95);
+        Due.is("of those of whom one told, with 4", x.entryOf(4, 0, 6), 95);
+        x.meet(6, 3);
+        Due.is("of those of whom the other one told", x.entryOf(6, 0, 6), 95);
         Villages.tellUpTo(x, 5, 0, 3);
         x.bury(5, 0);
         Due.is("another tomb is passed", x.meet(5, 4), 1);
