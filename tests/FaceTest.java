@@ -28,7 +28,9 @@ public final class FaceTest {
             found.add("RumorTombs/" + constructor.getParameterCount());
         }
         for (Method method : RumorTombs.class.getDeclaredMethods()) {
-            if (!Modifier.isPrivate(method.getModifiers())) {
+            if (Modifier.isPrivate(method.getModifiers())) {
+                Due.is(method + " bears the name of a public one", bearsPublicName(method) ? 1 : 0, 0);
+            } else {
                 Due.is(method + " is public", method.getModifiers(), Modifier.PUBLIC);
                 Due.is(method + " takes and answers int", intsAlone(method) ? 1 : 0, 1);
                 found.add(method.getName() + "/" + method.getParameterCount());
@@ -51,14 +53,16 @@ public final class FaceTest {
         return ints;
     }
 
+    private static boolean bearsPublicName(Method method) {
+        return Arrays.stream(RumorTombs.class.getMethods()).anyMatch(m -> m.getName().equals(method.getName()));
+    }
+
     private static void lookAtInnerClasses() {
         for (Class<?> inner : RumorTombs.class.getDeclaredClasses()) {
             boolean hidden = !Modifier.isPublic(inner.getModifiers()) && !Modifier.isProtected(inner.getModifiers());
             Due.is(inner + " is hidden and static", hidden && Modifier.isStatic(inner.getModifiers()) ? 1 : 0, 1);
             for (Method method : inner.getDeclaredMethods()) {
-                boolean likeAPublicOne = Arrays.stream(RumorTombs.class.getMethods())
-                        .anyMatch(m -> m.getName().equals(method.getName()));
-                Due.is(method + " bears the name of a public one", likeAPublicOne ? 1 : 0, 0);
+                Due.is(method + " bears the name of a public one", bearsPublicName(method) ? 1 : 0, 0);
             }
         }
     }

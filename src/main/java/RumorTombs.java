@@ -633,16 +633,16 @@ public final class RumorTombs {
             }
             int giver = ofOne > ofOther ? one : other;
             int taker = ofOne > ofOther ? other : one;
-            return mayHand(topic, giver, taker) ? giver : NOBODY;
+            int place = place(giver, topic);
+            return mayBeHanded(kinds[place], author(place) == giver, taker > giver) ? giver : NOBODY;
         }
 
-        private boolean mayHand(int topic, int giver, int taker) {
-            int place = place(giver, topic);
-            switch (kinds[place]) {
+        private static boolean mayBeHanded(int kind, boolean byAuthor, boolean upward) {
+            switch (kind) {
                 case WHISPERED:
-                    return author(place) == giver;
+                    return byAuthor;
                 case SECRET:
-                    return author(place) == giver && taker > giver;
+                    return byAuthor && upward;
                 default:
                     return true;
             }
